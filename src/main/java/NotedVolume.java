@@ -556,11 +556,11 @@ public final class NotedVolume {
             if (serial < leastKept() || serial >= next) {
                 return null;
             }
-            return cells[serial & CELLS - 1];
+            return cells[serial & (CELLS - 1)];
         }
 
         void append(Entry entry, int reasons) {
-            cells[next & CELLS - 1] = new Note(entry, reasons);
+            cells[next & (CELLS - 1)] = new Note(entry, reasons);
             next++;
         }
     }
@@ -649,11 +649,11 @@ public final class NotedVolume {
 
     /** A reader of notes and listings, and the follower that keeps a copy by them. */
     private static final class Subscriber {
-        private final FileTable copy;
-        private final int[] pageNumbers;
-        private int cursor;
-        private int mask;
-        private boolean listing;
+        final FileTable copy;
+        final int[] pageNumbers;
+        int cursor;
+        int mask;
+        boolean listing;
         private int greatestShown;
 
         Subscriber() {

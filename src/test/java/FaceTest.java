@@ -18,7 +18,8 @@ final class FaceTest {
 
     public static void main(String[] args) {
         Class<?> face = NotedVolume.class;
-        Check.yes("public final", Modifier.isPublic(face.getModifiers()) && Modifier.isFinal(face.getModifiers()));
+        Check.yes("public", Modifier.isPublic(face.getModifiers()));
+        Check.yes("final", Modifier.isFinal(face.getModifiers()));
         Check.same("NONE", -1, NotedVolume.NONE);
         Check.same("CUT", -2, NotedVolume.CUT);
         methods(face);

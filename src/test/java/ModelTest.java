@@ -34,13 +34,14 @@ final class ModelTest {
         Random random = new Random(seed);
         NotedVolume volume = new NotedVolume();
         PlainModel model = new PlainModel();
-        int files = 3 + random.nextInt(22);
+        int near = 3 + random.nextInt(30);
+        int latest = 0;
         int names = 2 + random.nextInt(12);
         int changes = 30 + random.nextInt(50);
         List<String> calls = new ArrayList<>();
         for (int i = 0; i < CALLS; i++) {
             String name = pick(random, changes);
-            int[] arguments = arguments(name, random, files, names, volume.head());
+            int[] arguments = arguments(name, random, file(random, near, latest), names, volume);
             String due = answer(() -> model.call(name, arguments[0], arguments[1], arguments[2]));
             String got = answer(() -> call(volume, name, arguments[0], arguments[1], arguments[2]));
             calls.add(name + " " + arguments[0] + " " + arguments[1] + " " + arguments[2] + ": " + got);
@@ -48,7 +49,9 @@ final class ModelTest {
                 tell(seed, calls, due);
                 return false;
             }
-            files = Math.max(files, volume.live() + 3);
+            if (name.equals("make") && !got.startsWith("throws")) {
+                latest = Math.max(latest, Integer.parseInt(got));
+            }
         }
         return true;
     }
@@ -69,21 +72,30 @@ final class ModelTest {
         return from[random.nextInt(from.length)];
     }
 
-    private static int[] arguments(String name, Random random, int files, int names, int head) {
+    /** A number among the latest ones, or the next one, or now and then one far off. */
+    private static int file(Random random, int near, int latest) {
+        if (random.nextInt(30) == 0) {
+            return random.nextInt(600) - 50;
+        }
+        return Math.max(random.nextInt(3) - 1, latest + 1 - random.nextInt(near));
+    }
+
+    private static int[] arguments(String name, Random random, int file, int names, NotedVolume volume) {
         int s = random.nextInt(40) == 0 ? random.nextInt(7) - 2 : random.nextInt(3);
-        int file = random.nextInt(files + 2) - (random.nextInt(20) == 0 ? 2 : 0);
-        int folder = random.nextBoolean() ? 0 : random.nextInt(files);
+        int other = file - 8 + random.nextInt(16);
+        int folder = random.nextBoolean() ? 0 : other;
+        int actions = random.nextInt(3) == 0 ? random.nextInt(44) - 1 : random.nextInt(5);
         int title = random.nextInt(30) == 0 ? 0 : 1 + random.nextInt(names);
         switch (name) {
             case "make": return new int[] {folder, random.nextInt(2), title};
             case "rename": return new int[] {file, folder, title};
             case "of": return new int[] {file, random.nextInt(6) - 1, 0};
             case "find": return new int[] {folder, title, 0};
-            case "note": return new int[] {head - random.nextInt(20), random.nextInt(8) - 1, 0};
+            case "note": return new int[] {volume.head() - random.nextInt(20), random.nextInt(8) - 1, 0};
             case "cutAfter": return new int[] {random.nextInt(9) - 2, 0, 0};
             case "subscribe": return new int[] {s, random.nextInt(134) - 3, 0};
             case "shown": return new int[] {s, random.nextInt(6) - 1, 0};
-            case "follow": return new int[] {s, random.nextInt(3) == 0 ? random.nextInt(44) - 1 : random.nextInt(5), 0};
+            case "follow": return new int[] {s, actions, 0};
             case "copied": return new int[] {s, file, random.nextInt(6) - 1};
             case "change": case "remove": case "close": return new int[] {file, 0, 0};
             default: return new int[] {s, 0, 0};
@@ -97,8 +109,6 @@ final class ModelTest {
     private static String answer(Call call) {
         try {
             return String.valueOf(call.make());
-        } catch (IndexOutOfBoundsException e) {
-            return "throws.IndexOutOfBoundsException";
         } catch (RuntimeException e) {
             return "throws." + e.getClass().getSimpleName();
         }

@@ -164,6 +164,8 @@ final class NotesTest {
         Check.same("mark", 101, v.note(102, 4));
         Check.same("mark", 116, v.note(117, 4));
         Check.same("the gathering outlives its notes", 1 + 2, v.note(117, 5));
+        Check.fails("HEAD", NoSuchElementException.class, () -> v.note(118, 0));
+        Check.fails("TAIL less 1", NoSuchElementException.class, () -> v.note(101, 0));
     }
 
     private static void noteRefuses() {

@@ -89,6 +89,9 @@ final class PlainModel {
         if (row == null) {
             throw new NoSuchElementException();
         }
+        if (what < 0 || what >= row.size()) {
+            throw new IndexOutOfBoundsException();
+        }
         return row.get(what);
     }
 

@@ -16,6 +16,7 @@ final class PowerTest {
         startClosesInOrder();
         startFindsAllBeforeItClosesAny();
         startKnowsKeptNotesOnly();
+        startBehindAClosingNote();
         startLeavesTheRestAlone();
         Check.end("PowerTest");
     }
@@ -261,6 +262,19 @@ final class PowerTest {
         Check.same("reasons", 64 + 1 + 2, v.note(20, 5));
         Check.same("head", 21, v.head());
         Check.fails("forgotten", NoSuchElementException.class, () -> v.close(2));
+    }
+
+    private static void startBehindAClosingNote() {
+        NotedVolume v = oneClosed();
+        v.make(0, false, 6);
+        for (int i = 0; i < 14; i++) {
+            v.change(2);
+        }
+        Check.same("a closing note is the first that is kept", 64 + 1, v.note(v.tail(), 5));
+        v.cutAfter(0);
+        v.change(2);
+        Check.same("start", 1, v.start());
+        Check.same("file", 2, v.note(18, 0));
     }
 
     private static void startLeavesTheRestAlone() {

@@ -190,6 +190,9 @@ final class VolumeTest {
         Check.same("head", head, v.head());
         v.remove(2);
         Check.fails("twice", NoSuchElementException.class, () -> v.remove(2));
+        v.make(0, true, 3);
+        v.rename(1, 3, 1);
+        Check.fails("an older file in it", UnsupportedOperationException.class, () -> v.remove(3));
     }
 
     private static void ofAFile() {
