@@ -25,16 +25,16 @@ final class FollowerTest {
         v.rename(2, 0, 3);
         Check.same("follow", 0, v.follow(0, 0));
         Check.same("follow", 2, v.follow(0, 2));
-        holds(v, 0, 1, 1, 0, 1, 0);
-        holds(v, 0, 2, 0, 1, 2, 0);
+        Check.copy(v, 0, 1, 1, 0, 1, 0);
+        Check.copy(v, 0, 2, 0, 1, 2, 0);
         Check.same("cursor", 3, v.cursor(0));
         Check.same("content", 1, v.follow(0, 1));
-        holds(v, 0, 2, 0, 1, 2, 1);
+        Check.copy(v, 0, 2, 0, 1, 2, 1);
         Check.same("renamed from", 1, v.follow(0, 1));
-        holds(v, 0, 2, 0, 1, 2, 1);
+        Check.copy(v, 0, 2, 0, 1, 2, 1);
         Check.no("not yet", v.inStep(0));
         Check.same("renamed to", 1, v.follow(0, 9));
-        holds(v, 0, 2, 0, 0, 3, 1);
+        Check.copy(v, 0, 2, 0, 0, 3, 1);
         Check.yes("in step", v.inStep(0));
         Check.no("the others have not followed", v.inStep(1));
         Check.same("it read as its subscriber", 0, v.read(0));
@@ -73,10 +73,10 @@ final class FollowerTest {
         v.change(1);
         v.rename(1, 0, 5);
         v.follow(0, 2);
-        holds(v, 0, 1, 0, 0, 5, 1);
+        Check.copy(v, 0, 1, 0, 0, 5, 1);
         Check.yes("in step, notes before", v.inStep(0));
         v.follow(0, 1);
-        holds(v, 0, 1, 0, 0, 1, 1);
+        Check.copy(v, 0, 1, 0, 0, 1, 1);
         Check.no("as the note says", v.inStep(0));
         v.follow(0, 2);
         Check.yes("in step", v.inStep(0));
@@ -103,12 +103,12 @@ final class FollowerTest {
         Check.same("no page yet", NotedVolume.NONE, v.shown(0, 0));
         Check.same("a page", 1, v.follow(0, 1));
         Check.same("shown", 4, v.shown(0, 3));
-        holds(v, 0, 4, 0, 0, 4, 0);
+        Check.copy(v, 0, 4, 0, 0, 4, 0);
         Check.fails("not yet shown", NoSuchElementException.class, () -> v.copied(0, 5, 0));
         v.change(5);
         Check.same("the last page and a note", 2, v.follow(0, 40));
         Check.same("shown", 5, v.shown(0, 0));
-        holds(v, 0, 5, 0, 0, 5, 21);
+        Check.copy(v, 0, 5, 0, 0, 5, 21);
         Check.yes("in step", v.inStep(0));
     }
 
@@ -219,12 +219,6 @@ final class FollowerTest {
             Check.fails("follow", IndexOutOfBoundsException.class, () -> v.follow(s, 1));
             Check.fails("copied", IndexOutOfBoundsException.class, () -> v.copied(s, 9, 0));
             Check.fails("inStep", IndexOutOfBoundsException.class, () -> v.inStep(s));
-        }
-    }
-
-    private static void holds(NotedVolume v, int s, int file, int... due) {
-        for (int what = 0; what < due.length; what++) {
-            Check.same("copied(" + s + ", " + file + ", " + what + ")", due[what], v.copied(s, file, what));
         }
     }
 }

@@ -41,7 +41,7 @@ final class ModelTest {
         List<String> calls = new ArrayList<>();
         for (int i = 0; i < CALLS; i++) {
             String name = pick(random, changes);
-            int[] arguments = arguments(name, random, file(random, near, latest), names, volume);
+            int[] arguments = arguments(name, random, file(random, near, latest), names, model);
             String due = answer(() -> model.call(name, arguments[0], arguments[1], arguments[2]));
             String got = answer(() -> call(volume, name, arguments[0], arguments[1], arguments[2]));
             calls.add(name + " " + arguments[0] + " " + arguments[1] + " " + arguments[2] + ": " + got);
@@ -80,7 +80,7 @@ final class ModelTest {
         return Math.max(random.nextInt(3) - 1, latest + 1 - random.nextInt(near));
     }
 
-    private static int[] arguments(String name, Random random, int file, int names, NotedVolume volume) {
+    private static int[] arguments(String name, Random random, int file, int names, PlainModel model) {
         int s = random.nextInt(40) == 0 ? random.nextInt(7) - 2 : random.nextInt(3);
         int other = file - 8 + random.nextInt(16);
         int folder = random.nextBoolean() ? 0 : other;
@@ -91,7 +91,7 @@ final class ModelTest {
             case "rename": return new int[] {file, folder, title};
             case "of": return new int[] {file, random.nextInt(6) - 1, 0};
             case "find": return new int[] {folder, title, 0};
-            case "note": return new int[] {volume.head() - random.nextInt(20), random.nextInt(8) - 1, 0};
+            case "note": return new int[] {head(model) - random.nextInt(20), random.nextInt(8) - 1, 0};
             case "cutAfter": return new int[] {random.nextInt(9) - 2, 0, 0};
             case "subscribe": return new int[] {s, random.nextInt(134) - 3, 0};
             case "shown": return new int[] {s, random.nextInt(6) - 1, 0};
@@ -100,6 +100,10 @@ final class ModelTest {
             case "change": case "remove": case "close": return new int[] {file, 0, 0};
             default: return new int[] {s, 0, 0};
         }
+    }
+
+    private static int head(PlainModel model) {
+        return (int) model.call("head", 0, 0, 0);
     }
 
     private interface Call {

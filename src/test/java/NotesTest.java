@@ -18,24 +18,24 @@ final class NotesTest {
     private static void notesOfEachChange() {
         NotedVolume v = new NotedVolume();
         v.make(0, true, 5);
-        says(v, 1, 1, 1, 0, 5, 0, 1);
+        Check.note(v, 1, 1, 1, 0, 5, 0, 1);
         v.make(1, false, 6);
-        says(v, 2, 2, 0, 1, 6, 0, 1);
+        Check.note(v, 2, 2, 0, 1, 6, 0, 1);
         v.close(1);
         v.close(2);
         v.change(2);
-        says(v, 5, 2, 0, 1, 6, 1, 2);
+        Check.note(v, 5, 2, 0, 1, 6, 1, 2);
         v.close(2);
         v.rename(2, 1, 7);
-        says(v, 7, 2, 0, 1, 6, 1, 4);
-        says(v, 8, 2, 0, 1, 7, 1, 4 + 8);
+        Check.note(v, 7, 2, 0, 1, 6, 1, 4);
+        Check.note(v, 8, 2, 0, 1, 7, 1, 4 + 8);
         v.close(2);
         v.rename(2, 0, 7);
-        says(v, 10, 2, 0, 1, 7, 1, 4);
-        says(v, 11, 2, 0, 0, 7, 1, 4 + 8 + 16);
+        Check.note(v, 10, 2, 0, 1, 7, 1, 4);
+        Check.note(v, 11, 2, 0, 0, 7, 1, 4 + 8 + 16);
         v.close(2);
         v.remove(2);
-        says(v, 13, 2, 0, 0, 7, 1, 32);
+        Check.note(v, 13, 2, 0, 0, 7, 1, 32);
         Check.same("head", 14, v.head());
     }
 
@@ -46,16 +46,16 @@ final class NotesTest {
         v.change(2);
         Check.same("open", 2, v.open());
         Check.yes("close", v.close(1));
-        says(v, 4, 1, 1, 0, 3, 0, 64 + 1);
+        Check.note(v, 4, 1, 1, 0, 3, 0, 64 + 1);
         Check.same("open", 1, v.open());
         v.rename(2, 0, 9);
         Check.yes("close", v.close(2));
-        says(v, 7, 2, 0, 0, 9, 1, 64 + 1 + 2 + 4 + 8 + 16);
+        Check.note(v, 7, 2, 0, 0, 9, 1, 64 + 1 + 2 + 4 + 8 + 16);
         Check.same("open", 0, v.open());
         v.remove(2);
         Check.same("open", 1, v.open());
         Check.yes("one that does not live", v.close(2));
-        says(v, 9, 2, 0, 0, 0, 0, 64 + 32);
+        Check.note(v, 9, 2, 0, 0, 0, 0, 64 + 32);
         Check.same("open", 0, v.open());
         Check.same("head", 10, v.head());
     }
@@ -97,18 +97,18 @@ final class NotesTest {
         Check.same("open", 3, v.open());
         v.make(0, false, 4);
         Check.same("open", 3, v.open());
-        says(v, 5, 1, 0, 0, 1, 1, 64 + 1 + 2);
-        says(v, 6, 4, 0, 0, 4, 0, 1);
+        Check.note(v, 5, 1, 0, 0, 1, 1, 64 + 1 + 2);
+        Check.note(v, 6, 4, 0, 0, 4, 0, 1);
         v.change(1);
-        says(v, 7, 2, 0, 0, 2, 0, 64 + 1);
-        says(v, 8, 1, 0, 0, 1, 2, 2);
+        Check.note(v, 7, 2, 0, 0, 2, 0, 64 + 1);
+        Check.note(v, 8, 1, 0, 0, 1, 2, 2);
         v.rename(2, 0, 5);
-        says(v, 9, 3, 0, 0, 3, 0, 64 + 1);
-        says(v, 10, 2, 0, 0, 2, 0, 4);
-        says(v, 11, 2, 0, 0, 5, 0, 4 + 8);
+        Check.note(v, 9, 3, 0, 0, 3, 0, 64 + 1);
+        Check.note(v, 10, 2, 0, 0, 2, 0, 4);
+        Check.note(v, 11, 2, 0, 0, 5, 0, 4 + 8);
         v.remove(3);
-        says(v, 12, 4, 0, 0, 4, 0, 64 + 1);
-        says(v, 13, 3, 0, 0, 3, 0, 32);
+        Check.note(v, 12, 4, 0, 0, 4, 0, 64 + 1);
+        Check.note(v, 13, 3, 0, 0, 3, 0, 32);
         Check.same("head", 14, v.head());
     }
 
@@ -136,7 +136,7 @@ final class NotesTest {
         v.make(0, false, 2);
         v.make(0, false, 3);
         v.make(0, false, 4);
-        says(v, 6, 1, 0, 0, 0, 0, 64 + 1 + 2 + 32);
+        Check.note(v, 6, 1, 0, 0, 0, 0, 64 + 1 + 2 + 32);
         Check.fails("closed", NoSuchElementException.class, () -> v.close(1));
     }
 
@@ -179,11 +179,5 @@ final class NotesTest {
         Check.fails("what 6", IndexOutOfBoundsException.class, () -> v.note(1, 6));
         Check.fails("what -1", IndexOutOfBoundsException.class, () -> v.note(1, -1));
         Check.fails("not kept before no what", NoSuchElementException.class, () -> v.note(2, 6));
-    }
-
-    private static void says(NotedVolume v, int serial, int... due) {
-        for (int what = 0; what < due.length; what++) {
-            Check.same("note(" + serial + ", " + what + ")", due[what], v.note(serial, what));
-        }
     }
 }

@@ -122,21 +122,21 @@ final class SubscriberTest {
         Check.same("a beginning leaves the page", NotedVolume.NONE, v.shown(0, 0));
         Check.same("cursor", v.head(), v.cursor(0));
         Check.same("page", 4, v.page(0));
-        shows(v, 0, 1, 2, 3, 4);
+        Check.page(v, 0, 1, 2, 3, 4);
         Check.same("page", 4, v.page(0));
-        shows(v, 0, 5, 6, 7, 8);
+        Check.page(v, 0, 5, 6, 7, 8);
         v.remove(2);
         Check.same("a page may have none", 0, v.page(0));
-        shows(v, 0, -1, -1, -1, -1);
+        Check.page(v, 0, -1, -1, -1, -1);
         Check.fails("it has ended", IllegalStateException.class, () -> v.page(0));
         v.list(0);
         v.page(0);
-        shows(v, 0, 1, 3, 4, 5);
+        Check.page(v, 0, 1, 3, 4, 5);
         Check.same("page", 3, v.page(0));
-        shows(v, 0, 6, 7, 8, -1);
+        Check.page(v, 0, 6, 7, 8, -1);
         Check.fails("it has ended", IllegalStateException.class, () -> v.page(0));
         v.list(0);
-        shows(v, 0, 6, 7, 8, -1);
+        Check.page(v, 0, 6, 7, 8, -1);
         Check.same("k 4", NotedVolume.NONE, v.shown(0, 4));
         Check.same("k -1", NotedVolume.NONE, v.shown(0, -1));
         Check.same("k far out", NotedVolume.NONE, v.shown(0, Integer.MAX_VALUE));
@@ -153,7 +153,7 @@ final class SubscriberTest {
         v.remove(6);
         v.make(0, false, 20);
         Check.same("page", 3, v.page(2));
-        shows(v, 2, 5, 7, 8, -1);
+        Check.page(v, 2, 5, 7, 8, -1);
         v.make(0, false, 21);
         Check.fails("it has ended", IllegalStateException.class, () -> v.page(2));
     }
@@ -167,10 +167,10 @@ final class SubscriberTest {
         v.page(0);
         v.list(0);
         Check.same("from the first on", 4, v.page(0));
-        shows(v, 0, 1, 2, 3, 4);
+        Check.page(v, 0, 1, 2, 3, 4);
         Check.same("page", 1, v.page(0));
-        shows(v, 0, 5, -1, -1, -1);
-        shows(v, 1, -1, -1, -1, -1);
+        Check.page(v, 0, 5, -1, -1, -1);
+        Check.page(v, 1, -1, -1, -1, -1);
     }
 
     private static void readingAndListingTogether() {
@@ -202,12 +202,6 @@ final class SubscriberTest {
     private static void changes(NotedVolume v, int n) {
         for (int i = 0; i < n; i++) {
             v.change(1);
-        }
-    }
-
-    private static void shows(NotedVolume v, int s, int... due) {
-        for (int k = 0; k < due.length; k++) {
-            Check.same("shown(" + s + ", " + k + ")", due[k], v.shown(s, k));
         }
     }
 }
