@@ -429,6 +429,9 @@ final class FileEdgesTest {
         Check.yes("its file was moved out", v.remove(4));
         Check.yes("its folder has gone", v.remove(1));
         v.make(0, true, 9);
+        v.rename(2, 6, 2);
+        Check.fails("the one with the least number", UnsupportedOperationException.class, () -> v.remove(6));
+        v.remove(2);
         v.cutAfter(1);
         v.make(6, false, 1);
         v.start();

@@ -560,9 +560,9 @@ final class FollowerEdgesTest {
     private static void inStepWithTheSameFiles() {
         Check.about("the same files, with all that they are like");
         NotedVolume v = copyOf(2);
-        v.remove(1);
-        v.make(0, false, 1);
-        Check.no("as many, with another number", v.inStep(0));
+        v.remove(2);
+        v.make(0, false, 2);
+        Check.no("as many, all the same but a number", v.inStep(0));
         v.list(0);
         v.follow(0, 1);
         Check.yes("in step", v.inStep(0));
