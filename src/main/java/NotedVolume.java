@@ -35,6 +35,8 @@ public final class NotedVolume {
     // A copy may keep files that are long gone, but no more than 512 calls can have made.
     private static final int MOST_COPIED = 512;
 
+    private static final int WITHOUT_END = 0x7fffffff;
+
     private final FileTable files;
     private final Ring ring;
     private final Gatherings gatherings;
@@ -241,8 +243,8 @@ public final class NotedVolume {
         }
         powered = true;
         writesLeft = NONE;
-        // All are recalled before any is closed, because a closing note may write over a note
-        // that another gathering is known by.
+        // All are recalled before any is closed, so that the ring which they are found in does
+        // not change meanwhile.
         gatherings.recall(ring);
         int closed = gatherings.count();
         for (int i = 0; i < closed; i++) {
@@ -733,7 +735,7 @@ public final class NotedVolume {
         private void copyPage(FileTable files) {
             int shownBefore = greatestShown;
             showPage(files);
-            copy.dropRange(shownBefore, listing ? greatestShown : Integer.MAX_VALUE);
+            copy.dropRange(shownBefore, listing ? greatestShown : WITHOUT_END);
             for (int k = 0; k < PAGE_SIZE; k++) {
                 copyAsItIs(pageNumbers[k], files);
             }

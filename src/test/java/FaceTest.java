@@ -2,19 +2,41 @@ import java.lang.reflect.Constructor;
 import java.lang.reflect.Field;
 import java.lang.reflect.Method;
 import java.lang.reflect.Modifier;
+import java.util.ArrayList;
+import java.util.List;
 import java.util.Set;
 import java.util.TreeSet;
 
 /** The public face is the document's, and nothing else of the class can be seen from outside. */
 final class FaceTest {
+    // The exceptions stand without the end of their names.
     private static final Set<String> METHODS = Set.of(
-            "int make(int, boolean, int)", "int change(int)", "boolean rename(int, int, int)",
-            "boolean remove(int)", "boolean close(int)", "int open()", "int of(int, int)",
-            "int find(int, int)", "int live()", "int tail()", "int head()", "int note(int, int)",
-            "void subscribe(int, int)", "int cursor(int)", "int read(int)", "void list(int)",
-            "int page(int)", "int shown(int, int)", "int follow(int, int)",
-            "int copied(int, int, int)", "boolean inStep(int)", "void cutAfter(int)",
-            "int start()", "boolean isOn()");
+            "int make(int, boolean, int)"
+                    + " throws IllegalState, IllegalArgument, NoSuchElement, UnsupportedOperation",
+            "int change(int) throws IllegalState, NoSuchElement, UnsupportedOperation",
+            "boolean rename(int, int, int)"
+                    + " throws IllegalState, IllegalArgument, NoSuchElement, UnsupportedOperation",
+            "boolean remove(int) throws IllegalState, NoSuchElement, UnsupportedOperation",
+            "boolean close(int) throws IllegalState, NoSuchElement",
+            "int open()",
+            "int of(int, int) throws NoSuchElement, IndexOutOfBounds",
+            "int find(int, int)",
+            "int live()",
+            "int tail()",
+            "int head()",
+            "int note(int, int) throws NoSuchElement, IndexOutOfBounds",
+            "void subscribe(int, int) throws IndexOutOfBounds, IllegalArgument",
+            "int cursor(int) throws IndexOutOfBounds",
+            "int read(int) throws IndexOutOfBounds",
+            "void list(int) throws IndexOutOfBounds",
+            "int page(int) throws IndexOutOfBounds, IllegalState",
+            "int shown(int, int) throws IndexOutOfBounds",
+            "int follow(int, int) throws IndexOutOfBounds, IllegalArgument",
+            "int copied(int, int, int) throws IndexOutOfBounds, NoSuchElement",
+            "boolean inStep(int) throws IndexOutOfBounds",
+            "void cutAfter(int) throws IllegalArgument",
+            "int start()",
+            "boolean isOn()");
 
     public static void main(String[] args) {
         Class<?> face = NotedVolume.class;
@@ -35,10 +57,12 @@ final class FaceTest {
         for (Method method : face.getDeclaredMethods()) {
             if (!Modifier.isPrivate(method.getModifiers())) {
                 seen.add(written(method));
+                Check.yes(method.getName(), Modifier.isPublic(method.getModifiers()));
+                Check.no(method.getName(), Modifier.isStatic(method.getModifiers()));
                 names.add(method.getName());
             }
         }
-        Check.yes("methods " + seen, seen.equals(new TreeSet<>(METHODS)));
+        Check.sameText("methods", new TreeSet<>(METHODS).toString(), seen.toString());
         for (Method method : face.getDeclaredMethods()) {
             if (Modifier.isPrivate(method.getModifiers())) {
                 Check.no("private " + method.getName(), names.contains(method.getName()));
@@ -47,14 +71,18 @@ final class FaceTest {
     }
 
     private static String written(Method method) {
-        StringBuilder text = new StringBuilder();
-        text.append(method.getReturnType().getName()).append(' ').append(method.getName()).append('(');
-        String gap = "";
-        for (Class<?> type : method.getParameterTypes()) {
-            text.append(gap).append(type.getName());
-            gap = ", ";
+        Class<?>[] thrown = method.getExceptionTypes();
+        return method.getReturnType().getName() + " " + method.getName()
+                + "(" + names(method.getParameterTypes()) + ")"
+                + (thrown.length == 0 ? "" : " throws " + names(thrown));
+    }
+
+    private static String names(Class<?>[] types) {
+        List<String> names = new ArrayList<>();
+        for (Class<?> type : types) {
+            names.add(type.getSimpleName().replace("Exception", ""));
         }
-        return text.append(')').toString();
+        return String.join(", ", names);
     }
 
     private static void fields(Class<?> face) {
